@@ -372,11 +372,6 @@ public final class HayThieves {
             balesLeft = bales;
         }
 
-        void emptyHands() {
-            hands = NONE;
-            balesLeft = 0;
-        }
-
         void beIdle() {
             idleMinutes++;
             idleInRow++;
@@ -406,8 +401,7 @@ public final class HayThieves {
         private int state = IN_YARD;
         private int broughtAt = 0;
         private int doneAt = NONE;
-        private int forkings = 0;
-        private int joinings = 0;
+        private int heaps = 1;
         private int thefts = 0;
         private int pitched = 0;
 
@@ -415,7 +409,7 @@ public final class HayThieves {
             switch (what) {
                 case 0: return bales;
                 case 1: return state;
-                case 2: return 1 + 2 * forkings;
+                case 2: return heaps;
                 case 3: return thefts;
                 case 4: return broughtAt;
                 case 5: return doneAt;
@@ -428,8 +422,7 @@ public final class HayThieves {
             state = other.state;
             broughtAt = other.broughtAt;
             doneAt = other.doneAt;
-            forkings = other.forkings;
-            joinings = other.joinings;
+            heaps = other.heaps;
             thefts = other.thefts;
             pitched = other.pitched;
         }
@@ -445,6 +438,8 @@ public final class HayThieves {
         private int loadCount = 0;
         private int minute = 0;
         private int forkSize = FIRST_FORK;
+        private int forkings = 0;
+        private int joinings = 0;
 
         Yard() {
             for (int i = 0; i < MOST_LADS; i++) {
@@ -472,10 +467,14 @@ public final class HayThieves {
             loads[loadCount].broughtAt = minute;
             setBales(loadCount * HEAPS_OF_LOAD + WHOLE_LOAD, bales);
             loadCount++;
+            wakeAll();
+            return loadCount - 1;
+        }
+
+        void wakeAll() {
             for (int i = 0; i < ladCount; i++) {
                 lads[i].asleep = false;
             }
-            return loadCount - 1;
         }
 
         int tell(int what) {
@@ -488,8 +487,8 @@ public final class HayThieves {
                 case 5: return sumOverLads(LAD_HEAPS);
                 case 6: return sleepers();
                 case 7: return sumOverLads(LAD_THEFTS);
-                case 8: return forkingsInAll();
-                case 9: return joiningsInAll();
+                case 8: return forkings;
+                case 9: return joinings;
                 case COUNT_IDLE: return sumOverLads(LAD_IDLE);
                 case COUNT_PITCHED: return sumOverLoads(LOAD_PITCHED);
                 default: return forkSize;
@@ -518,22 +517,6 @@ public final class HayThieves {
             int sum = 0;
             for (int i = 0; i < loadCount; i++) {
                 sum += loads[i].tell(what);
-            }
-            return sum;
-        }
-
-        int forkingsInAll() {
-            int sum = 0;
-            for (int i = 0; i < loadCount; i++) {
-                sum += loads[i].forkings;
-            }
-            return sum;
-        }
-
-        int joiningsInAll() {
-            int sum = 0;
-            for (int i = 0; i < loadCount; i++) {
-                sum += loads[i].joinings;
             }
             return sum;
         }
@@ -652,7 +635,7 @@ public final class HayThieves {
         void joinHalves(Lad lad) {
             int heap = lad.toJoin;
             lad.toJoin = NONE;
-            loadOf(heap).joinings++;
+            joinings++;
             finishHeap(lad, heap);
         }
 
@@ -671,7 +654,8 @@ public final class HayThieves {
             int firstHalf = heap + heap % HEAPS_OF_LOAD;
             setBales(firstHalf, bales / 2);
             setBales(firstHalf + 1, bales - bales / 2);
-            loadOf(heap).forkings++;
+            loadOf(heap).heaps += 2;
+            forkings++;
             lad.take(firstHalf, bales / 2);
             lad.cart.putNear(firstHalf + 1);
             wakeFirstSleeper();
@@ -696,7 +680,7 @@ public final class HayThieves {
         }
 
         void finishHeap(Lad lad, int heap) {
-            lad.emptyHands();
+            lad.hands = NONE;
             if (heap < 0 || heap >= MOST_HEAPS) {
                 return;
             }
@@ -752,6 +736,8 @@ public final class HayThieves {
             loadCount = other.loadCount;
             minute = other.minute;
             forkSize = other.forkSize;
+            forkings = other.forkings;
+            joinings = other.joinings;
         }
     }
 }

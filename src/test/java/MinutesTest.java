@@ -10,6 +10,7 @@ public final class MinutesTest {
         until();
         untilTheLastMinute();
         foresee();
+        foreseeSleepers();
         foreseeRefuses();
         advise();
         adviseEdges();
@@ -126,6 +127,21 @@ public final class MinutesTest {
         for (int what = 3; what <= 11; what++) {
             Check.is("foresee(7, " + what + ")", y.foresee(7, what), due[what - 3]);
         }
+    }
+
+    private static void foreseeSleepers() {
+        HayThieves x = new HayThieves();
+        x.come(1);
+        x.pass(1);
+        Check.is("one idle minute: foresee(1, 6)", x.foresee(1, 6), 0);
+        Check.is("one idle minute: foresee(2, 6)", x.foresee(2, 6), 1);
+        x.pass(1);
+        Check.is("two idle minutes: foresee(1, 6)", x.foresee(1, 6), 1);
+        Check.is("two idle minutes: foresee(60, 10)", x.foresee(60, 10), 3);
+        Check.is("count(6)", x.count(6), 0);
+        x.bring(9);
+        Check.is("with a load: foresee(10, 6)", x.foresee(10, 6), 0);
+        Check.is("with a load: foresee(13, 6)", x.foresee(13, 6), 1);
     }
 
     private static void foreseeRefuses() {
