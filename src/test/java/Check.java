@@ -26,9 +26,9 @@ final class Check {
 
     /** The call must throw this very kind of exception, and change nothing. */
     static void refuses(HayThieves x, Class<? extends RuntimeException> kind, String what, Call call) {
-        String before = Picture.of(x);
+        String before = Picture.inShort(x);
         same(what, outcome(call), "throws." + kind.getSimpleName());
-        same(what + " leaves", Picture.of(x), before);
+        same(what + " leaves", Picture.inShort(x), before);
     }
 
     /** The answer, or throws. and the name of the exception. */

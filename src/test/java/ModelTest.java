@@ -1,7 +1,8 @@
 /** Long runs of mixed calls, right and wrong ones, in which the program must answer as the model does. */
 public final class ModelTest {
     private static final int RUNS = 600;
-    private static final int CALLS = 512;
+    // Each is followed by digest(), and an object is good for 512 calls.
+    private static final int CALLS = 245;
     private static final int[] WILD = {Integer.MIN_VALUE, -7, -1, 10, 13, 61, 301, Integer.MAX_VALUE};
 
     // A row of numbers that is the same each time.
@@ -34,11 +35,11 @@ public final class ModelTest {
             fillYard(x, model);
             quickest = 1;
         }
-        for (int i = 0; i < CALLS / 2; i++) {
-            boolean crowds = run % 2 == 0 && x.count(1) > 1 && below(3) == 0;
+        for (int i = 0; i < CALLS; i++) {
+            boolean crowds = run % 2 == 0 && model.count(1) > 1 && below(3) == 0;
             int call = crowds ? Model.SWAP : pick(i, telling);
-            int a = crowds ? withMost(x, 4) : first(call, quickest, strongest);
-            int b = crowds ? withMost(x, 2) : second(call);
+            int a = crowds ? withMost(model, 4) : first(call, quickest, strongest);
+            int b = crowds ? withMost(model, 2) : second(call);
             String what = "run " + run + ", call " + i + ": " + call + "(" + a + ", " + b + ")";
             Check.same(what, Check.outcome(() -> ask(x, call, a, b)), Check.outcome(() -> askModel(model, call, a, b)));
             Check.is(what + ", digest after it", x.digest(), model.digest());
@@ -46,10 +47,10 @@ public final class ModelTest {
     }
 
     /** Who has the greatest heap gets the fullest cart: so carts are filled up to the last place. */
-    private static int withMost(HayThieves x, int what) {
+    private static int withMost(Model model, int what) {
         int best = 0;
-        for (int lad = 1; lad < x.count(1); lad++) {
-            if (x.lad(lad, what) > x.lad(best, what)) {
+        for (int lad = 1; lad < model.count(1); lad++) {
+            if (model.lad(lad, what) > model.lad(best, what)) {
                 best = lad;
             }
         }
@@ -64,7 +65,7 @@ public final class ModelTest {
         }
     }
 
-    /** Often what changes something, more so at first, so that carts are filled and swapped. */
+    /** Lads at first, and then more often what changes something than what tells. */
     private static int pick(int i, int telling) {
         if (i < 3) {
             return Model.COME;

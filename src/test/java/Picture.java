@@ -1,4 +1,4 @@
-/** All that an object tells without being changed, as one text. */
+/** What an object tells without being changed, as one text. It takes many of its 512 calls. */
 final class Picture {
     private Picture() {
     }
@@ -26,10 +26,15 @@ final class Picture {
             }
             text.append(" until ").append(x.until(load));
         }
+        return text.append(' ').append(inShort(x)).toString();
+    }
+
+    static String inShort(HayThieves x) {
+        StringBuilder text = new StringBuilder("digest ").append(x.digest());
         // The sleepers of the next minutes show the rows of idle minutes.
         for (int minutes = 1; minutes <= 3; minutes++) {
             text.append(" sleep ").append(x.foresee(minutes, 6));
         }
-        return text.append(" digest ").append(x.digest()).toString();
+        return text.toString();
     }
 }
