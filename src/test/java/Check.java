@@ -1,13 +1,23 @@
 /** What the tests have in common: each wrong answer is printed, and end() fails if there was one. */
 final class Check {
+    static final Class<IllegalArgumentException> ARGUMENT = IllegalArgumentException.class;
+    static final Class<IllegalStateException> STATE = IllegalStateException.class;
+    static final Class<IndexOutOfBoundsException> INDEX = IndexOutOfBoundsException.class;
+
     private static int asked = 0;
     private static int wrong = 0;
+    private static String sentence = "";
 
     private Check() {
     }
 
     interface Call {
         long answer();
+    }
+
+    /** What is checked from now on is what this sentence of the document says. */
+    static void sentence(String text) {
+        sentence = "[" + text + "] ";
     }
 
     static void is(String what, long got, long due) {
@@ -42,7 +52,7 @@ final class Check {
 
     static void fail(String text) {
         wrong++;
-        System.out.println(text);
+        System.out.println(sentence + text);
     }
 
     static void end() {

@@ -1,9 +1,5 @@
 /** Promises 1 to 7: a new object, and what is done by hand. */
 public final class LadsAndLoadsTest {
-    private static final Class<IllegalArgumentException> ARGUMENT = IllegalArgumentException.class;
-    private static final Class<IllegalStateException> STATE = IllegalStateException.class;
-    private static final Class<IndexOutOfBoundsException> INDEX = IndexOutOfBoundsException.class;
-
     public static void main(String[] args) {
         newObject();
         objectsAreApart();
@@ -28,8 +24,8 @@ public final class LadsAndLoadsTest {
         }
         Check.is("new: count(12)", x.count(12), 10);
         Check.is("new: thief()", x.thief(), -1);
-        Check.refuses(x, INDEX, "new: lad(0, 0)", () -> x.lad(0, 0));
-        Check.refuses(x, INDEX, "new: load(0, 0)", () -> x.load(0, 0));
+        Check.refuses(x, Check.INDEX, "new: lad(0, 0)", () -> x.lad(0, 0));
+        Check.refuses(x, Check.INDEX, "new: load(0, 0)", () -> x.load(0, 0));
         Check.is("new: pass(60)", x.pass(60), 0);
         Check.is("new: count(0) after it", x.count(0), 60);
     }
@@ -54,7 +50,7 @@ public final class LadsAndLoadsTest {
         HayThieves x = new HayThieves();
         int[] wrong = {0, 10, -1, Integer.MIN_VALUE, Integer.MAX_VALUE};
         for (int strength : wrong) {
-            Check.refuses(x, ARGUMENT, "come(" + strength + ")", () -> x.come(strength));
+            Check.refuses(x, Check.ARGUMENT, "come(" + strength + ")", () -> x.come(strength));
         }
         int[] strengths = {1, 9, 5, 2, 8, 3};
         for (int i = 0; i < 6; i++) {
@@ -68,10 +64,10 @@ public final class LadsAndLoadsTest {
                 Check.is("a new lad: lad(" + lad + ", " + what + ")", x.lad(lad, what), due[what]);
             }
         }
-        Check.refuses(x, STATE, "come(1) as seventh", () -> x.come(1));
-        Check.refuses(x, STATE, "come(9) as seventh", () -> x.come(9));
+        Check.refuses(x, Check.STATE, "come(1) as seventh", () -> x.come(1));
+        Check.refuses(x, Check.STATE, "come(9) as seventh", () -> x.come(9));
         for (int strength : wrong) {
-            Check.refuses(x, ARGUMENT, "come(" + strength + ") as seventh", () -> x.come(strength));
+            Check.refuses(x, Check.ARGUMENT, "come(" + strength + ") as seventh", () -> x.come(strength));
         }
     }
 
@@ -92,7 +88,7 @@ public final class LadsAndLoadsTest {
 
     private static void setWay() {
         HayThieves x = new HayThieves();
-        Check.refuses(x, INDEX, "setWay(0, 0) without lads", () -> x.setWay(0, 0));
+        Check.refuses(x, Check.INDEX, "setWay(0, 0) without lads", () -> x.setWay(0, 0));
         x.come(3);
         x.come(3);
         Check.is("setWay(1, 2)", x.setWay(1, 2), 0);
@@ -104,7 +100,7 @@ public final class LadsAndLoadsTest {
         int[][] wrong = {{-1, 0}, {2, 0}, {6, 0}, {0, -1}, {0, 3}, {2, 3},
             {Integer.MAX_VALUE, 1}, {Integer.MIN_VALUE, 1}, {0, Integer.MAX_VALUE}, {0, Integer.MIN_VALUE}};
         for (int[] w : wrong) {
-            Check.refuses(x, INDEX, "setWay(" + w[0] + ", " + w[1] + ")", () -> x.setWay(w[0], w[1]));
+            Check.refuses(x, Check.INDEX, "setWay(" + w[0] + ", " + w[1] + ")", () -> x.setWay(w[0], w[1]));
         }
     }
 
@@ -115,7 +111,7 @@ public final class LadsAndLoadsTest {
         Check.is("setFork(7)", x.setFork(7), 60);
         Check.is("count(12)", x.count(12), 7);
         for (int size : new int[] {3, 61, 0, -4, Integer.MIN_VALUE, Integer.MAX_VALUE}) {
-            Check.refuses(x, ARGUMENT, "setFork(" + size + ")", () -> x.setFork(size));
+            Check.refuses(x, Check.ARGUMENT, "setFork(" + size + ")", () -> x.setFork(size));
         }
     }
 
@@ -145,7 +141,7 @@ public final class LadsAndLoadsTest {
         HayThieves x = new HayThieves();
         int[] wrong = {0, 61, -1, Integer.MIN_VALUE, Integer.MAX_VALUE};
         for (int bales : wrong) {
-            Check.refuses(x, ARGUMENT, "bring(" + bales + ")", () -> x.bring(bales));
+            Check.refuses(x, Check.ARGUMENT, "bring(" + bales + ")", () -> x.bring(bales));
         }
         x.pass(4);
         int[] bales = {1, 60, 2, 3, 4, 5, 6, 7, 8, 9};
@@ -158,14 +154,14 @@ public final class LadsAndLoadsTest {
                 Check.is("a new load: load(" + i + ", " + what + ")", x.load(i, what), due[what]);
             }
         }
-        Check.refuses(x, STATE, "bring(1) as eleventh", () -> x.bring(1));
+        Check.refuses(x, Check.STATE, "bring(1) as eleventh", () -> x.bring(1));
         for (int b : wrong) {
-            Check.refuses(x, ARGUMENT, "bring(" + b + ") as eleventh", () -> x.bring(b));
+            Check.refuses(x, Check.ARGUMENT, "bring(" + b + ") as eleventh", () -> x.bring(b));
         }
         x.come(9);
         x.pass(2);
         Check.is("one load is done: count(3)", x.count(3), 1);
-        Check.refuses(x, STATE, "bring(1) after ten, one of them done", () -> x.bring(1));
+        Check.refuses(x, Check.STATE, "bring(1) after ten, one of them done", () -> x.bring(1));
     }
 
     private static void bringWakes() {
@@ -175,7 +171,7 @@ public final class LadsAndLoadsTest {
         }
         x.pass(3);
         Check.is("all sleep: count(6)", x.count(6), 6);
-        Check.refuses(x, ARGUMENT, "bring(61) while all sleep", () -> x.bring(61));
+        Check.refuses(x, Check.ARGUMENT, "bring(61) while all sleep", () -> x.bring(61));
         x.bring(1);
         Check.is("a load wakes all: count(6)", x.count(6), 0);
         Check.is("nothing to do yet: lad(5, 3)", x.lad(5, 3), 0);
@@ -223,16 +219,16 @@ public final class LadsAndLoadsTest {
 
     private static void swap() {
         HayThieves none = new HayThieves();
-        Check.refuses(none, INDEX, "swap(0, 0) without lads", () -> none.swap(0, 0));
+        Check.refuses(none, Check.INDEX, "swap(0, 0) without lads", () -> none.swap(0, 0));
         HayThieves x = withHay();
         Check.is("before: lad(0, 2)", x.lad(0, 2), 4);
         Check.is("before: lad(1, 2)", x.lad(1, 2), 0);
-        Check.refuses(x, ARGUMENT, "swap(0, 0)", () -> x.swap(0, 0));
-        Check.refuses(x, ARGUMENT, "swap(1, 1)", () -> x.swap(1, 1));
+        Check.refuses(x, Check.ARGUMENT, "swap(0, 0)", () -> x.swap(0, 0));
+        Check.refuses(x, Check.ARGUMENT, "swap(1, 1)", () -> x.swap(1, 1));
         int[][] wrong = {{0, 2}, {2, 0}, {-1, 0}, {0, -1}, {2, 2}, {-1, -1},
             {Integer.MAX_VALUE, Integer.MAX_VALUE}, {0, Integer.MIN_VALUE}};
         for (int[] w : wrong) {
-            Check.refuses(x, INDEX, "swap(" + w[0] + ", " + w[1] + ")", () -> x.swap(w[0], w[1]));
+            Check.refuses(x, Check.INDEX, "swap(" + w[0] + ", " + w[1] + ")", () -> x.swap(w[0], w[1]));
         }
         Check.is("swap(0, 1)", x.swap(0, 1), 0);
         int[] due = {4, 8, 15, 30};
@@ -269,20 +265,20 @@ public final class LadsAndLoadsTest {
 
     private static void wake() {
         HayThieves x = new HayThieves();
-        Check.refuses(x, INDEX, "wake(0) without lads", () -> x.wake(0));
+        Check.refuses(x, Check.INDEX, "wake(0) without lads", () -> x.wake(0));
         x.come(1);
         x.come(1);
         x.come(1);
-        Check.refuses(x, STATE, "wake(0) of one awake", () -> x.wake(0));
+        Check.refuses(x, Check.STATE, "wake(0) of one awake", () -> x.wake(0));
         x.pass(3);
         for (int lad : new int[] {-1, 3, 6, Integer.MAX_VALUE, Integer.MIN_VALUE}) {
-            Check.refuses(x, INDEX, "wake(" + lad + ")", () -> x.wake(lad));
+            Check.refuses(x, Check.INDEX, "wake(" + lad + ")", () -> x.wake(lad));
         }
         Check.is("wake(1)", x.wake(1), 2);
         Check.is("lad(0, 3)", x.lad(0, 3), 3);
         Check.is("lad(1, 3)", x.lad(1, 3), 0);
         Check.is("lad(2, 3)", x.lad(2, 3), 3);
-        Check.refuses(x, STATE, "wake(1) again", () -> x.wake(1));
+        Check.refuses(x, Check.STATE, "wake(1) again", () -> x.wake(1));
         x.pass(2);
         Check.is("the row begins anew: lad(1, 3)", x.lad(1, 3), 0);
         Check.is("wake(2)", x.wake(2), 1);

@@ -1,7 +1,5 @@
 /** Promises 14 to 19: minutes, and what would be. */
 public final class MinutesTest {
-    private static final Class<IllegalArgumentException> ARGUMENT = IllegalArgumentException.class;
-    private static final Class<IndexOutOfBoundsException> INDEX = IndexOutOfBoundsException.class;
     private static final int[] WRONG_MINUTES = {0, -1, Integer.MIN_VALUE, 61, Integer.MAX_VALUE};
 
     public static void main(String[] args) {
@@ -33,7 +31,7 @@ public final class MinutesTest {
     private static void pass() {
         HayThieves x = slow(1, 2, 3, 4);
         for (int minutes : WRONG_MINUTES) {
-            Check.refuses(x, ARGUMENT, "pass(" + minutes + ")", () -> x.pass(minutes));
+            Check.refuses(x, Check.ARGUMENT, "pass(" + minutes + ")", () -> x.pass(minutes));
         }
         // They are done in the minutes 1, 4, 8 and 13.
         Check.is("pass(1)", x.pass(1), 0);
@@ -77,7 +75,7 @@ public final class MinutesTest {
     private static void until() {
         HayThieves x = slow(2, 3);
         for (int load : new int[] {-1, 2, 10, Integer.MIN_VALUE, Integer.MAX_VALUE}) {
-            Check.refuses(x, INDEX, "until(" + load + ")", () -> x.until(load));
+            Check.refuses(x, Check.INDEX, "until(" + load + ")", () -> x.until(load));
         }
         String before = Picture.of(x);
         Check.is("until(0)", x.until(0), 3);
@@ -89,7 +87,7 @@ public final class MinutesTest {
         Check.is("until(0) when it is done", x.until(0), 0);
         Check.is("until(1)", x.until(1), 4);
         HayThieves none = new HayThieves();
-        Check.refuses(none, INDEX, "until(0) without loads", () -> none.until(0));
+        Check.refuses(none, Check.INDEX, "until(0) without loads", () -> none.until(0));
         none.bring(1);
         Check.is("until(0) without lads", none.until(0), -1);
     }
@@ -142,12 +140,12 @@ public final class MinutesTest {
     private static void foreseeRefuses() {
         HayThieves x = slow(5);
         for (int minutes : WRONG_MINUTES) {
-            Check.refuses(x, ARGUMENT, "foresee(" + minutes + ", 3)", () -> x.foresee(minutes, 3));
-            Check.refuses(x, ARGUMENT, "foresee(" + minutes + ", 2)", () -> x.foresee(minutes, 2));
+            Check.refuses(x, Check.ARGUMENT, "foresee(" + minutes + ", 3)", () -> x.foresee(minutes, 3));
+            Check.refuses(x, Check.ARGUMENT, "foresee(" + minutes + ", 2)", () -> x.foresee(minutes, 2));
         }
         for (int what : new int[] {2, 12, 0, -1, 13, Integer.MIN_VALUE, Integer.MAX_VALUE}) {
-            Check.refuses(x, INDEX, "foresee(1, " + what + ")", () -> x.foresee(1, what));
-            Check.refuses(x, INDEX, "foresee(60, " + what + ")", () -> x.foresee(60, what));
+            Check.refuses(x, Check.INDEX, "foresee(1, " + what + ")", () -> x.foresee(1, what));
+            Check.refuses(x, Check.INDEX, "foresee(60, " + what + ")", () -> x.foresee(60, what));
         }
         Check.is("foresee(60, 11)", x.foresee(60, 11), 5);
         Check.is("foresee(1, 4)", x.foresee(1, 4), 0);
@@ -183,7 +181,7 @@ public final class MinutesTest {
     private static void adviseEdges() {
         HayThieves x = slow(60);
         for (int minutes : new int[] {0, 41, 60, -1, Integer.MIN_VALUE, Integer.MAX_VALUE}) {
-            Check.refuses(x, ARGUMENT, "advise(" + minutes + ")", () -> x.advise(minutes));
+            Check.refuses(x, Check.ARGUMENT, "advise(" + minutes + ")", () -> x.advise(minutes));
         }
         Check.is("advise(40)", x.advise(40), 60);
         Check.is("advise(1)", x.advise(1), 4);

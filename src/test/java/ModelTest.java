@@ -34,6 +34,9 @@ public final class ModelTest {
         if (run % 2 == 0) {
             fillYard(x, model);
             quickest = 1;
+        } else if (run % 4 == 1) {
+            hireSix(x, model);
+            quickest = 2;
         }
         for (int i = 0; i < CALLS; i++) {
             boolean crowds = run % 2 == 0 && model.count(1) > 1 && below(3) == 0;
@@ -55,6 +58,14 @@ public final class ModelTest {
             }
         }
         return best;
+    }
+
+    /** Many lads and few loads: so some sleep while there is hay in carts. */
+    private static void hireSix(HayThieves x, Model model) {
+        for (int i = 0; i < 6; i++) {
+            int strength = 1 + below(3);
+            Check.is("come", x.come(strength), model.act(Model.COME, strength, 0));
+        }
     }
 
     private static void fillYard(HayThieves x, Model model) {

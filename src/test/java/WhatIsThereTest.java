@@ -1,7 +1,5 @@
 /** Promises 8 to 13: what is told of lads, carts, loads and all. */
 public final class WhatIsThereTest {
-    private static final Class<IndexOutOfBoundsException> INDEX = IndexOutOfBoundsException.class;
-
     public static void main(String[] args) {
         ladsMinuteByMinute();
         loadsAndCounts();
@@ -98,16 +96,16 @@ public final class WhatIsThereTest {
 
     private static void ladRefuses() {
         HayThieves none = new HayThieves();
-        Check.refuses(none, INDEX, "lad(0, 0) without lads", () -> none.lad(0, 0));
+        Check.refuses(none, Check.INDEX, "lad(0, 0) without lads", () -> none.lad(0, 0));
         HayThieves x = twenty();
         int[][] wrong = {{-1, 0}, {2, 0}, {6, 0}, {0, -1}, {0, 9}, {1, 9},
             {Integer.MAX_VALUE, 0}, {Integer.MIN_VALUE, 0}, {0, Integer.MAX_VALUE}, {0, Integer.MIN_VALUE}};
         for (int[] w : wrong) {
-            Check.refuses(x, INDEX, "lad(" + w[0] + ", " + w[1] + ")", () -> x.lad(w[0], w[1]));
+            Check.refuses(x, Check.INDEX, "lad(" + w[0] + ", " + w[1] + ")", () -> x.lad(w[0], w[1]));
         }
         for (int lad : new int[] {-1, 2, 6, Integer.MAX_VALUE, Integer.MIN_VALUE}) {
-            Check.refuses(x, INDEX, "victim(" + lad + ")", () -> x.victim(lad));
-            Check.refuses(x, INDEX, "cart(" + lad + ", 0)", () -> x.cart(lad, 0));
+            Check.refuses(x, Check.INDEX, "victim(" + lad + ")", () -> x.victim(lad));
+            Check.refuses(x, Check.INDEX, "cart(" + lad + ", 0)", () -> x.cart(lad, 0));
         }
     }
 
@@ -116,7 +114,7 @@ public final class WhatIsThereTest {
         x.come(2);
         x.setFork(4);
         x.bring(59);
-        Check.refuses(x, INDEX, "cart(0, 0) of an empty cart", () -> x.cart(0, 0));
+        Check.refuses(x, Check.INDEX, "cart(0, 0) of an empty cart", () -> x.cart(0, 0));
         // 59: 29 and 30; 29: 14 and 15; 14: 7 and 7; 7: 3 and 4.
         x.pass(5);
         int[] due = {4, 7, 15, 30};
@@ -125,7 +123,7 @@ public final class WhatIsThereTest {
         }
         Check.is("lad(0, 4)", x.lad(0, 4), 3);
         for (int place : new int[] {4, 7, 8, -1, Integer.MAX_VALUE, Integer.MIN_VALUE}) {
-            Check.refuses(x, INDEX, "cart(0, " + place + ")", () -> x.cart(0, place));
+            Check.refuses(x, Check.INDEX, "cart(0, " + place + ")", () -> x.cart(0, place));
         }
         // The heap of 3 takes two minutes more; then the one of 4 is taken from the near end.
         x.pass(3);
@@ -137,8 +135,8 @@ public final class WhatIsThereTest {
         Check.is("from the far end: lad(1, 4)", x.lad(1, 4), 30);
         Check.is("from the far end: lad(0, 2)", x.lad(0, 2), 2);
         Check.is("from the far end: cart(0, 1)", x.cart(0, 1), 15);
-        Check.refuses(x, INDEX, "cart(0, 2)", () -> x.cart(0, 2));
-        Check.refuses(x, INDEX, "cart(1, 0)", () -> x.cart(1, 0));
+        Check.refuses(x, Check.INDEX, "cart(0, 2)", () -> x.cart(0, 2));
+        Check.refuses(x, Check.INDEX, "cart(1, 0)", () -> x.cart(1, 0));
     }
 
     private static void loadAndCountRefuse() {
@@ -146,10 +144,10 @@ public final class WhatIsThereTest {
         int[][] wrong = {{-1, 0}, {1, 0}, {10, 0}, {0, -1}, {0, 7},
             {Integer.MAX_VALUE, 0}, {Integer.MIN_VALUE, 0}, {0, Integer.MAX_VALUE}, {0, Integer.MIN_VALUE}};
         for (int[] w : wrong) {
-            Check.refuses(x, INDEX, "load(" + w[0] + ", " + w[1] + ")", () -> x.load(w[0], w[1]));
+            Check.refuses(x, Check.INDEX, "load(" + w[0] + ", " + w[1] + ")", () -> x.load(w[0], w[1]));
         }
         for (int what : new int[] {-1, 13, Integer.MAX_VALUE, Integer.MIN_VALUE}) {
-            Check.refuses(x, INDEX, "count(" + what + ")", () -> x.count(what));
+            Check.refuses(x, Check.INDEX, "count(" + what + ")", () -> x.count(what));
         }
     }
 
